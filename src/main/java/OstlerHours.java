@@ -59,7 +59,7 @@ public final class OstlerHours {
 
     public int erase() {
         int letters = text.length;
-        text.length = 0;
+        text.clear();
         return letters;
     }
 
@@ -72,7 +72,7 @@ public final class OstlerHours {
             return NOT;
         }
         told.become(parser.draft);
-        text.length = 0;
+        text.clear();
         beginDay();
         return parser.clauses;
     }
@@ -211,7 +211,7 @@ public final class OstlerHours {
             return NOT;
         }
         now.become(kept[k]);
-        past.size = 0;
+        past.clear();
         return now.number;
     }
 
@@ -276,11 +276,17 @@ public final class OstlerHours {
         if (n < 1 || n > MOST_FED_STAGES) {
             return OUTSIDE;
         }
-        int set = NONE;
-        for (int size = 0; size <= MOST_FED && set == NONE; size++) {
-            set = leastFedSet(rider, n, size);
+        // Oats change nothing for one that is not TIRED: a set with it is never among the fewest.
+        int idle = ~now.tiredHours();
+        int sets = 1 << told.hours;
+        for (int size = 0; size <= MOST_FED; size++) {
+            for (int set = 0; set < sets; set++) {
+                if (Integer.bitCount(set) == size && (set & idle) == 0 && comesFed(rider, n, set)) {
+                    return set;
+                }
+            }
         }
-        return set;
+        return NONE;
     }
 
     public int falls(int n, int q, int m, int part) {
@@ -305,7 +311,7 @@ public final class OstlerHours {
 
     public int forget() {
         int size = sightings.size;
-        sightings.size = 0;
+        sightings.clear();
         return size;
     }
 
@@ -442,24 +448,12 @@ public final class OstlerHours {
 
     private void beginDay() {
         now.begin();
-        past.size = 0;
+        past.clear();
         for (int k = 0; k < isKept.length; k++) {
             isKept[k] = false;
         }
-        sightings.size = 0;
+        sightings.clear();
         shelf.closeAll();
-    }
-
-    private int leastFedSet(int rider, int stages, int size) {
-        // Oats change nothing for one that is not TIRED: a set with it is never among the fewest.
-        int idle = ~now.tiredHours();
-        int sets = 1 << told.hours;
-        for (int set = 0; set < sets; set++) {
-            if (Integer.bitCount(set) == size && (set & idle) == 0 && comesFed(rider, stages, set)) {
-                return set;
-            }
-        }
-        return NONE;
     }
 
     private boolean comesFed(int rider, int stages, int set) {
@@ -607,16 +601,20 @@ public final class OstlerHours {
         private static final int BLANK = ' ';
 
         private final int[] letters = new int[MOST_LETTERS];
-        private int length;
-        private int place;
         private int behind;
-        private int sort;
+        int length;
+        int place;
+        int sort;
 
         void append(int letter) {
             if (length < MOST_LETTERS) {
                 letters[length] = letter;
                 length++;
             }
+        }
+
+        void clear() {
+            length = 0;
         }
 
         void firstToken() {
@@ -649,7 +647,7 @@ public final class OstlerHours {
         }
 
         boolean isSemicolon() {
-            return sort == SIGN && letters[place] == ';';
+            return sort == SIGN && place < length && letters[place] == ';';
         }
 
         boolean isWord(String word) {
@@ -666,7 +664,7 @@ public final class OstlerHours {
 
         /** The number of one digit that stands here, NONE for anything else. */
         int digit() {
-            return sort == DIGITS && behind - place == 1 ? letters[place] - '0' : NONE;
+            return sort == DIGITS && behind - place == 1 && place < length ? letters[place] - '0' : NONE;
         }
     }
 
@@ -675,8 +673,8 @@ public final class OstlerHours {
         private static final int NO_WORD = -1, A_ROAD = 5, AN_INN = 6, A_RIDER = 7;
 
         private final Text text;
-        private final Road draft = new Road();
-        private int clauses;
+        final Road draft = new Road();
+        int clauses;
 
         Parser(Text text) {
             this.text = text;
@@ -685,11 +683,10 @@ public final class OstlerHours {
         int findFault(Road told) {
             draft.become(told);
             text.firstToken();
-            for (clauses = 0; clauses < MOST_CLAUSES; text.nextToken()) {
+            for (clauses = 1; clauses <= MOST_CLAUSES; clauses++) {
                 if (!takeClause()) {
                     return text.place;
                 }
-                clauses++;
                 if (text.sort == Text.END) {
                     return NONE;
                 }
@@ -697,6 +694,7 @@ public final class OstlerHours {
                 if (!text.isSemicolon() || clauses == MOST_CLAUSES) {
                     return text.place;
                 }
+                text.nextToken();
             }
             return text.place;
         }
@@ -805,16 +803,18 @@ public final class OstlerHours {
     /** All HOURS and RIDERS and the STAGE, as they are at one time. */
     private static final class Day {
         private static final int MOST_TIRED = 10, OATS_EASE = 3, SHOD_TIRED = 5, THROWN_CLOCK = 2;
+        // More than any is TIRED, so that one that is not WILLING ranks behind all that are.
+        private static final int UNWILLING = MOST_TIRED + 1;
 
-        private final Road told;
-        private int number;
-        private final int[] place = new int[MOST_HOURS];
-        private final int[] tired = new int[MOST_HOURS];
-        private final int[] ridden = new int[MOST_HOURS];
-        private int lame;
-        private final int[] at = new int[MOST_RIDERS];
-        private final int[] to = new int[MOST_RIDERS];
-        private final int[] clock = new int[MOST_RIDERS];
+        final Road told;
+        int number;
+        final int[] place = new int[MOST_HOURS];
+        final int[] tired = new int[MOST_HOURS];
+        final int[] ridden = new int[MOST_HOURS];
+        int lame;
+        final int[] at = new int[MOST_RIDERS];
+        final int[] to = new int[MOST_RIDERS];
+        final int[] clock = new int[MOST_RIDERS];
 
         Day(Road told) {
             this.told = told;
@@ -902,20 +902,17 @@ public final class OstlerHours {
         int chooseHour(int rider, int spent) {
             int barred = spent | lame;
             int best = NONE;
+            int bestRank = 0;
             for (int h = 0; h < told.hours; h++) {
-                if (place[h] == at[rider] && (barred >> h & 1) == 0 && (best == NONE || isBetter(h, best))) {
-                    best = h;
+                if (place[h] == at[rider] && (barred >> h & 1) == 0) {
+                    int rank = Kind.isWilling(told.kind[h]) ? tired[h] : tired[h] + UNWILLING;
+                    if (best == NONE || rank < bestRank) {
+                        best = h;
+                        bestRank = rank;
+                    }
                 }
             }
             return best;
-        }
-
-        private boolean isBetter(int hour, int other) {
-            boolean willing = Kind.isWilling(told.kind[hour]);
-            if (willing != Kind.isWilling(told.kind[other])) {
-                return willing;
-            }
-            return tired[hour] < tired[other];
         }
 
         void passStage() {
@@ -1029,7 +1026,7 @@ public final class OstlerHours {
     private static final class Past {
         private final Day[] days = new Day[MOST_UNDONE];
         private int next;
-        private int size;
+        int size;
 
         Past(Road told) {
             for (int i = 0; i < days.length; i++) {
@@ -1041,6 +1038,10 @@ public final class OstlerHours {
             days[next].become(day);
             next = (next + 1) % MOST_UNDONE;
             size = Math.min(size + 1, MOST_UNDONE);
+        }
+
+        void clear() {
+            size = 0;
         }
 
         void restore(Day day) {
@@ -1055,9 +1056,9 @@ public final class OstlerHours {
     /** MATCH: goes through all ways to give each rider an hour of his own. */
     private static final class Pairing {
         private final int[] tried = new int[MOST_RIDERS];
-        private final int[] best = new int[MOST_RIDERS];
-        private int least;
-        private boolean found;
+        final int[] best = new int[MOST_RIDERS];
+        int least;
+        boolean found;
 
         void pair(Day day) {
             found = false;
@@ -1104,7 +1105,7 @@ public final class OstlerHours {
         private final int[] miles = new int[ROOM];
         private final int[] took = new int[ROOM];
         private final int[] tiredBy = new int[ROOM];
-        private int size;
+        int size;
 
         void append(int m, int t, int d) {
             if (size < ROOM) {
@@ -1113,6 +1114,10 @@ public final class OstlerHours {
                 tiredBy[size] = d;
                 size++;
             }
+        }
+
+        void clear() {
+            size = 0;
         }
 
         int fittingKinds() {
@@ -1216,8 +1221,8 @@ public final class OstlerHours {
         static final int NUMBER = 0, HOUR = 1, OTHER = 2, NOTHING = 3;
         private static final int MISSING = -1;
 
-        private final int[] has = new int[MOST_LINES];
-        private final int[] value = new int[MOST_LINES];
+        final int[] has = new int[MOST_LINES];
+        final int[] value = new int[MOST_LINES];
         private int lines = MISSING;
 
         void open(int n) {
@@ -1281,7 +1286,7 @@ public final class OstlerHours {
     private static final class Shelf {
         private static final int EMPTY_WEIGHT = 1000000;
 
-        private final Book[] books = new Book[MOST_BOOKS];
+        final Book[] books = new Book[MOST_BOOKS];
 
         Shelf() {
             for (int b = 0; b < books.length; b++) {
