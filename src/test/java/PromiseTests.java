@@ -278,6 +278,7 @@ public final class PromiseTests {
         stagesOfOneVicious();
         stagesOfTheLed();
         stagesOfOtherKinds();
+        stagesOfAFullRoad();
         OstlerHours day = new OstlerHours();
         due("stage(0)", day.stage(0), OUTSIDE);
         due("stage(13)", day.stage(13), OUTSIDE);
@@ -387,6 +388,26 @@ public final class PromiseTests {
         dueHour(weary, 1, 4, 0, 1, 10, 1, 1);
         dueHour(weary, 2, 3, 0, 1, 9, 0, 1);
         due("lame", weary.count(4), 3);
+    }
+
+    private static void stagesOfAFullRoad() {
+        OstlerHours day = told(times(6, "inn 2") + ";" + times(8, "hack 5 9") + ";" + times(4, "rider 5 0"));
+        due("match of a full road", day.match(NONE), 8);
+        due("match(3) of a full road", day.match(3), 3);
+        due("fastest(3) of a full road", day.fastest(3), NONE);
+        due("feed(3, 1) of a full road", day.feed(3, 1), NONE);
+        due("ahead(7, 1, 1) of a full road", day.ahead(7, 1, 1), 7);
+        due("stage(1)", day.stage(1), 1);
+        due("lame", day.count(4), 15);
+        due("clocks", day.count(6), 8);
+        dueHour(day, 3, 0, 5, 4, 10, 1, 1);
+        dueHour(day, 4, 0, 5, 5, 7, 0, 0);
+        dueHour(day, 7, 0, 5, 5, 7, 0, 0);
+        dueRider(day, 3, 4, 0, 2);
+        due("oats(7)", day.oats(7), 4);
+        day.stage(12);
+        due("undo()", day.undo(), 2);
+        dueHour(day, 7, 0, 5, 5, 4, 0, 0);
     }
 
     private static void promise11() {
@@ -557,6 +578,8 @@ public final class PromiseTests {
         due("given(2), one that was led home", day.given(2), 0);
         OstlerHours like = told("inn 1;inn 9;hack 1 0;dawn 0 3;hack 0 3;rider 0 1");
         due("given(0), the least number", like.given(0), 1);
+        OstlerHours unwilling = told("inn 1;inn 9;midnight 0 0;hack 0 9;rider 0 1");
+        due("given(0), the tired ahead of the unwilling", unwilling.given(0), 1);
         OstlerHours lamed = told(THREE_LAMED);
         lamed.stage(1);
         lamed.turn(1, 0);
