@@ -119,19 +119,18 @@ public final class PromiseTests {
     }
 
     private static void promise4() {
-        OstlerHours day = new OstlerHours();
         String[] good = {"inn 1", "inn 9", "  inn   3  ", "inn1", "inn 1;inn 2", " inn 1 ; inn 2 ", "road", "road;road",
             "inn 1;hack 0 0", "inn 1;vicious 0 9", "inn 1;dawn 0 5", "inn 1;grey 0 1", "inn 1;midnight 0 2",
             "inn 1;rider 0 0", "inn 1;inn 1;rider 1 0", times(6, "inn 1"), times(6, "inn 1") + ";road;inn 1",
             "inn 1;" + times(8, "grey 0 0"), "inn 1;" + times(4, "rider 0 0"), times(20, "road"),
             "inn 1;hack 0 0;road;inn 1;hack0 0"};
         for (String text : good) {
-            dueFault(day, text, NONE);
+            dueFault(new OstlerHours(), text, NONE);
         }
         String[] atEnd = {"", " ", "   ", "inn", "inn ", "inn 1;", "inn 1; ", "road;", "inn 1;hack", "inn 1;hack 0",
             "inn 1;hack 0 ", "inn 1;rider", "inn 1;rider 0", "inn 1;midnight 0"};
         for (String text : atEnd) {
-            dueFault(day, text, text.length());
+            dueFault(new OstlerHours(), text, text.length());
         }
         // The letter # stands for nothing: the token behind it is the fault.
         String[] marked = {"#inns 1", "#in 1", "#Inn 1", "#iNn 1", "#innz 1", "#ainn 1", "#xnn 1", "#;", "#; inn 1", "inn 1;#;inn 1",
@@ -142,9 +141,9 @@ public final class PromiseTests {
             times(6, "inn 1") + ";#inn 1", times(6, "inn 1") + ";#inn", "inn 1;" + times(8, "hack 0 0") + ";#dawn 0 0",
             "inn 1;" + times(4, "rider 0 0") + "; #rider 0 0", times(20, "road") + "#;road", times(20, "road") + "#;"};
         for (String text : marked) {
-            dueFault(day, text.replace("#", ""), text.indexOf('#'));
+            dueFault(new OstlerHours(), text.replace("#", ""), text.indexOf('#'));
         }
-        tell(day, times(6, "inn 1") + ";grey 5 0");
+        OstlerHours day = told(times(6, "inn 1") + ";grey 5 0");
         dueFault(day, "inn 1", 0);
         dueFault(day, "rider 5 0", NONE);
         dueFault(day, "rider 6 0", 6);
