@@ -385,6 +385,15 @@ public final class TextBoundaryTests {
                 .run("hour 0 5: 0, stage 1: 1, rider 0 0: 1, turn 0 0: 1, stage 1: 2, rider 0 0: 0, rider 0 2: 2");
     }
 
+    private static void fewerThanBefore() {
+        Calls.about("road: all as at first");
+        Calls day = Calls.told("inn 9;inn 9;" + Calls.times(8, "hack 0 9") + ";" + Calls.times(4, "rider 0 1"));
+        day.run("match NONE: 36, stage 1: 1, count 4: 15, count 6: 36, turn 1 0: 1, turn 3 0: 1").tell("road;inn 1;inn 2;hack 0 0;rider 0 1")
+                .run("count 4: 0, count 5: 0, count 6: 0, match NONE: 2, match 0: 0, match 1: UNKNOWN, given 0: 0, fastest 0: 2, feed 0 1: 0,"
+                        + " comes 0 0: 1, ahead 0 1 1: 2, stage 1: 1, count 4: 0, count 5: 1, count 6: 2, hour 1 0: UNKNOWN, rider 1 0: UNKNOWN")
+                .tell("road").run("match NONE: 0, count 5: 0, count 6: 0, stage 1: 1, count 6: 0, undo: 0");
+    }
+
     public static void main(String[] args) {
         lettersUpTo200();
         lettersByNumber();
@@ -407,6 +416,7 @@ public final class TextBoundaryTests {
         firstFault();
         earlierTextsStay();
         allIsAsTold();
+        fewerThanBefore();
         Calls.end("bounds of THE TEXT");
     }
 }
